@@ -7,6 +7,7 @@ public final class HistoryTest {
         undoTells();
         undoHoldsFour();
         undoBringsBackAll();
+        eachActIsUndoneAlone();
         everyActIsRecorded();
         keepTells();
         restoreTells();
@@ -83,6 +84,67 @@ public final class HistoryTest {
         Due.due("P15 its guard", x.word(3, 0), 34);
         Due.due("P15 joins", x.count(6), 0);
         Due.due("P15 splits", x.count(5), 2);
+    }
+
+    /** All that is told of a state, in one text. */
+    private static String state(GuardedPool x) {
+        StringBuilder told = new StringBuilder();
+        for (int word = 0; word < 64; word++) {
+            for (int what = 0; what < 4; what++) {
+                told.append(x.word(word, what)).append(' ');
+            }
+        }
+        for (int block = 0; block < 10; block++) {
+            for (int what = 0; what < 7; what++) {
+                told.append(x.block(block, what)).append(' ');
+            }
+        }
+        for (int task = 0; task < 6; task++) {
+            for (int what = 0; what < 7; what++) {
+                told.append(x.task(task, what)).append(' ');
+            }
+        }
+        for (int what = 0; what < 10; what++) {
+            told.append(x.count(what)).append(' ');
+        }
+        return told.toString();
+    }
+
+    private static int act(GuardedPool x, int which) {
+        switch (which) {
+            case 0: return x.ask(0, 2);
+            case 1: return x.ask(1, 3);
+            case 2: return x.write(0, 0, 0, 9);
+            case 3: return x.write(0, 0, 2, 8);
+            case 4: return x.pass(9);
+            case 5: return x.touch(0);
+            case 6: return x.setLimit(0, 20);
+            case 7: return x.setPatience(9);
+            case 8: return x.ask(2, 2);
+            case 9: return x.giveBack(0, 0);
+            case 10: return x.sweep();
+            case 11: return x.live(2, false);
+            case 12: return Due.perform(x, "a5:14,t3,e5,s");
+            default: return x.restore();
+        }
+    }
+
+    /** Each act is done, undone (all is as ahead of it) and done again. */
+    private static void eachActIsUndoneAlone() {
+        GuardedPool x = new GuardedPool();
+        for (int which = 0; which < 14; which++) {
+            String ahead = state(x);
+            int answer = act(x, which);
+            String behind = state(x);
+            Due.due("P15 done " + which, answer >= 0 && !behind.equals(ahead) ? 1 : 0, 1);
+            x.undo();
+            Due.due("P15 as ahead of " + which, state(x).equals(ahead) ? 1 : 0, 1);
+            Due.due("P15 done again " + which, act(x, which), answer);
+            Due.due("P15 as behind " + which, state(x).equals(behind) ? 1 : 0, 1);
+            if (which == 3) {
+                x.keep();
+            }
+        }
     }
 
     private static void everyActIsRecorded() {
