@@ -41,8 +41,8 @@ public final class GuardedPool {
     private static final int HIT_UNASKED = 4;
 
     private static final int MOST_CHARACTERS = 60;
-    /** 30 commands of one sign and the commas fill a text; one more may seem to begin at its end. */
-    private static final int MOST_COMMANDS = 31;
+    /** So many commands of one sign fill a text, with the commas between them. */
+    private static final int MOST_COMMANDS = 30;
     private static final int MOST_DIGITS = 3;
     private static final int NO_FAULT = -1;
     private static final int FAULT_BASE = -100;
@@ -969,7 +969,7 @@ public final class GuardedPool {
     }
 
     private static final class Command {
-        /** The sign with which the command begins. */
+        /** The sign with which the command begins; it tells which of the numbers count. */
         int kind;
         int first;
         int second;
@@ -1039,13 +1039,12 @@ public final class GuardedPool {
                     return position;
                 }
             }
+            // Behind the comma of the last command that has room, the text ends too early.
             return position;
         }
 
         private void readCommand(Command command) {
             command.kind = signHere();
-            command.first = 0;
-            command.second = 0;
             switch (command.kind) {
                 case 'a':
                     readTwoNumbers(command, 1, MOST_ASKED);
